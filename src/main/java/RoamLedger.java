@@ -335,7 +335,7 @@ public final class RoamLedger {
     /** Returns false, with nothing charged among carriers, if the call must be cut. */
     private boolean runOneMinute(Talk talk) {
         Route route = talk.route;
-        if (!network.isOpenAll(route)) {
+        if (!network.isOpenAlong(route)) {
             if (!network.findBest(route.carrierAt(0), route.carrierAt(route.length - 1), route)) {
                 return false;
             }
@@ -507,7 +507,7 @@ public final class RoamLedger {
                     && rates[pair] != NONE && debts[pair] + rates[pair] <= trusts[pair];
         }
 
-        boolean isOpenAll(Route route) {
+        boolean isOpenAlong(Route route) {
             for (int place = 1; place < route.length; place++) {
                 if (!isOpen(route.carrierAt(place - 1), route.carrierAt(place))) {
                     return false;
