@@ -25,6 +25,16 @@ final class Check {
         equal(what, 0, answer ? 1 : 0);
     }
 
+    /** The call must be answered, whatever with. */
+    static void taken(String what, Runnable call) {
+        checks++;
+        try {
+            call.run();
+        } catch (RuntimeException e) {
+            tell(what + " threw " + e.getClass().getName() + ", due is an answer");
+        }
+    }
+
     /** The exception must be of the very class, and not one that the machine throws on an array. */
     static void fails(String what, Class<? extends RuntimeException> due, Runnable call) {
         checks++;
